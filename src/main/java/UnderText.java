@@ -545,8 +545,8 @@ public final class UnderText {
         Book() {
             for (int k = 0; k < MOST_HALVES; k++) {
                 leaves[k] = new Leaf();
-                leafOf[k] = NONE;
             }
+            Arrays.fill(leafOf, NONE);
         }
 
         void clear() {
