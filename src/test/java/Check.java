@@ -2,12 +2,18 @@
 final class Check {
     private int wrong = 0;
     private int seen = 0;
+    private String sentence = "";
+
+    /** The promise and the words of the document that the answers from here on are about. */
+    void about(String words) {
+        sentence = "[" + words + "] ";
+    }
 
     void due(String call, long want, long got) {
         seen++;
         if (got != want) {
             wrong++;
-            System.out.println(call + " answered " + got + ", due is " + want);
+            System.out.println(sentence + call + " answered " + got + ", due is " + want);
         }
     }
 

@@ -109,7 +109,8 @@ public final class ModelTest {
     private int newWork(String at, int left) {
         String bytes = randomBytes();
         int calls = 0;
-        for (int i = 0; i < bytes.length() && calls < left; i += 20, calls++) {
+        // one call is kept for work(): behind the 512th the document promises nothing
+        for (int i = 0; i < bytes.length() && calls < left - 1; i += 20, calls++) {
             int a = Check.number(bytes, i);
             int b = Check.number(bytes, i + 4);
             int c = Check.number(bytes, i + 8);
